@@ -1316,6 +1316,7 @@ public final class ChaffInTheWind {
         /** As they will be, if the text that is read is one: SORTS behind those told are no SORTS yet. */
         private int sortsToBe = 0;
         private int yardsToBe = 0;
+        private int standToBe = 0;
         private final int[] setting = {100, 0, 0, 20, 0};
         private final Flight flight = new Flight();
         /** Where each SORT lands in each WIND, as far as it was asked since the last change. */
@@ -1325,6 +1326,7 @@ public final class ChaffInTheWind {
         private int read(Signs signs) {
             sortsToBe = sorts;
             yardsToBe = 0;
+            standToBe = setting[STAND];
             if (signs.isDone()) {
                 return 0;
             }
@@ -1344,14 +1346,23 @@ public final class ChaffInTheWind {
 
         private boolean readLine(Signs signs) {
             if (signs.take('y')) {
-                int n = signs.number(2, 2, MOST_YARDS);
-                yardsToBe = n == NONE ? yardsToBe : n;
-                return n != NONE;
+                return readYards(signs);
             }
             if (sortsToBe >= SORTS) {
                 return false;
             }
             return readSort(signs, sortsToBe);
+        }
+
+        /** A shorter LONG brings STAND nearer, even if a LINE behind it tells a longer one. */
+        private boolean readYards(Signs signs) {
+            int n = signs.number(2, 2, MOST_YARDS);
+            if (n == NONE) {
+                return false;
+            }
+            yardsToBe = n;
+            standToBe = Math.min(standToBe, n - 1);
+            return true;
         }
 
         private boolean readSort(Signs signs, int s) {
@@ -1387,7 +1398,7 @@ public final class ChaffInTheWind {
             sorts = sortsToBe;
             if (tellsYards()) {
                 yards = yardsToBe;
-                setting[STAND] = Math.min(setting[STAND], yards - 1);
+                setting[STAND] = standToBe;
             }
             forgetLandings();
         }

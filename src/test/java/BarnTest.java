@@ -101,7 +101,11 @@ public final class BarnTest {
         CHECK.due("4 OUT is OUT", 2, x.count(7));
         CHECK.due("4 STAND is LONG less 1", 9, x.set(2, 3));
         CHECK.due("4 y longer", 1, Check.text(x, "y20").barn());
-        CHECK.due("4 STAND stays", 3, x.set(2, 3));
+        CHECK.due("4 STAND stays", 3, x.set(2, 15));
+        CHECK.due("4 y shorter and longer", 2, Check.text(x, "y7;y18").barn());
+        CHECK.due("4 STAND by each LINE", 6, x.set(2, 17));
+        CHECK.due("4 a wrong text", -5, Check.text(x, "y7;y1;").barn());
+        CHECK.due("4 STAND stays", 17, x.set(2, 0));
     }
 
     private static void barnRefuses() {
