@@ -101,6 +101,13 @@ public final class BarnTest {
         CHECK.due("4 OUT is OUT", 2, x.count(7));
         CHECK.due("4 STAND is LONG less 1", 9, x.set(2, 3));
         CHECK.due("4 y longer", 1, Check.text(x, "y20").barn());
+        x.go(0, 1);
+        int lying = x.count(6);
+        CHECK.due("4 a LINE of a SORT behind one of y", 1, Check.text(x, "s9,1,0*1").barn());
+        CHECK.due("4 a wrong LINE behind one of y", -5, Check.text(x, "y15;").barn());
+        CHECK.due("4 a LINE of a SORT behind a wrong text", 1, Check.text(x, "s9,1,0*1").barn());
+        CHECK.due("4 lies still", lying, x.count(6));
+        CHECK.due("4 LONG is as it was", 20, x.count(1));
         CHECK.due("4 STAND stays", 3, x.set(2, 15));
         CHECK.due("4 y shorter and longer", 2, Check.text(x, "y7;y18").barn());
         CHECK.due("4 STAND by each LINE", 6, x.set(2, 17));
@@ -115,6 +122,7 @@ public final class BarnTest {
             {"c1", -3}, {"c1*", -3}, {"c1;", -3}, {"c1,", -4}, {"c1,0,1*1", -4}, {"c1,61,1*1", -5}, {"c1,600", -6},
             {"c1,1", -5}, {"c1,1;", -5}, {"c1,1,", -6}, {"c1,1,61*1", -7}, {"c1,1,1", -7}, {"c1,1,1,", -7},
             {"c1,1,1*", -8}, {"c1,1,1*x", -8}, {"c1,1,1*1000", -11}, {"c1,1,1*1,", -9}, {"c1,1,1*1;", -10},
+            {"c001,1,1*1", -3}, {"c1,001,1*1", -5}, {"c1,1,000*1", -8}, {"c1,1,1*0001", -11}, {"y012", -3}, {"y002", -3},
             {"c1,1,1*1;c1,1,0*0;q", -19}, {"c1,1,1*1 ", -9}, {"c 1,1,1*1", -2},
             {"y", -2}, {"y1", -2}, {"y0", -2}, {"y00", -3}, {"y01", -3}, {"y25", -3}, {"y99", -3}, {"y123", -4}, {"y2*", -3},
             {"y24;", -5}, {"y5;y1", -5}, {"y5;;", -4}, {"c1,1,1*1y5", -9}};
@@ -158,7 +166,7 @@ public final class BarnTest {
 
     private static void windRefuses() {
         Object[][] told = {
-            {"x", -1}, {"*", -1}, {";", -1}, {"~", -1}, {"-", -2}, {"--5*1", -2}, {"5", -2}, {"5;", -2}, {"61*1", -2}, {"100*1", -3},
+            {"x", -1}, {"*", -1}, {";", -1}, {"~", -1}, {"-", -2}, {"--5*1", -2}, {"5", -2}, {"5;", -2}, {"61*1", -2}, {"100*1", -3}, {"005*1", -3}, {"5*001", -4}, {"5*1~001", -6}, {"5*1~020", -7},
             {"-61*1", -3}, {"5*", -3}, {"5*-1", -3}, {"5*0", -3}, {"5*00", -4}, {"5*100", -5}, {"5*1*", -4}, {"5*1~", -5},
             {"5*1~0", -5}, {"5*1~21", -6}, {"5*1~-1", -5}, {"5*1~1~", -6}, {"5*1~200", -7}, {"5*1;", -5}, {"5*1;;", -5},
             {"5*1;61*1", -6}, {"5*1~5,", -6},
@@ -193,6 +201,14 @@ public final class BarnTest {
         CHECK.due("5 empty", 0, Check.wind(x, ""));
         CHECK.due("5 THROWS are 0", 0, x.count(2));
         CHECK.due("5 none", 0, x.blows());
+        CHECK.row("5 none", x, -1, 0);
+        for (int i = 0; i < 4; i++) {
+            Check.wind(x, "4*2;5*1");
+            x.set(3, 1);
+            x.go(0, 4);
+            CHECK.due("5 the first one again", 4, x.blows());
+            CHECK.row("5 the first one again", x, 0, 1);
+        }
     }
 
     private static void saysRefuses() {

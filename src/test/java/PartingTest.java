@@ -35,7 +35,17 @@ public final class PartingTest {
         x.set(2, 0);
         CHECK.due("19 not below 0", 45, x.parts(0, 1));
         CHECK.row("19 not below 0", x, 48, 3);
-        CHECK.due("19 NONE", -1, x.parts(0, 2));
+        x.set(1, 16);
+        CHECK.due("19 in the WIND 0, too", 121 - 16, x.parts(0, 1));
+        CHECK.row("19 in the WIND 0, too", x, 48, 2);
+        x.set(1, 0);
+        Check.text(x, "h15,1,16*1").barn();
+        CHECK.due("19 in one WIND", 1, x.parts(0, 2));
+        CHECK.row("19 in one WIND", x, 60, 1);
+        CHECK.due("26 but for one WIND", 0, x.kin(0));
+        CHECK.due("20 but for one WIND", 0, x.never());
+        x.parts(0, 1);
+        CHECK.due("19 NONE", -1, x.parts(0, 3));
         CHECK.due("19 NONE", -1, x.parts(-1, 0));
         CHECK.row("19 the ROW stays", x, 48, 3);
         CHECK.due("19 like ones", 0, x.parts(1, 1));
@@ -77,11 +87,18 @@ public final class PartingTest {
         Check.text(x, "c1,1,4*7").barn();
         CHECK.due("21 OUT is no YARD", -1, x.best(0));
         CHECK.row("21 OUT is no YARD", x, 5, 0);
+        x.sheet(5, 2, 2, 4, -3);
+        CHECK.due("21 one grain is something else", -1, x.best(5));
         x.sheet(0, 2, 3, 0, 7);
         x.set(1, 40);
         Check.text(x, "h2,1,0*1;c2,1,0*9").barn();
         CHECK.due("21 corn OUT", 0, x.best(0));
         CHECK.row("21 corn OUT", x, 0, 9);
+        x = Check.barn("w1,1,4*3;c9,1,0*5;y3");
+        x.set(0, 400);
+        x.set(2, 1);
+        CHECK.due("21 the weed first", -1, x.best(0));
+        CHECK.row("21 the weed first", x, 5, 0);
         CHECK.due("21 it is not thrown", 0, x.count(6) + x.count(7));
     }
 
@@ -119,6 +136,21 @@ public final class PartingTest {
         CHECK.due("23 too few may go", 7, x.fan(0, 4));
         CHECK.due("23 all may go", 30, x.fan(0, 5));
         CHECK.row("23 no corn in YARDS", x, 0);
+        x.sheet(1, 2, 2, 1, 2);
+        CHECK.due("23 one grain of corn", 7, x.fan(1, 0));
+        CHECK.row("23 one grain of corn", x, 3);
+        x.sheet(1, 2, 2, 0, 2);
+        CHECK.due("23 no corn", 30, x.fan(1, 0));
+        CHECK.row("23 no corn", x, 0);
+        x.set(2, 0);
+        CHECK.due("23 chaff where corn would be", 30, x.fan(1, 0));
+        CHECK.row("23 chaff where corn would be", x, 0);
+        x.set(2, 11);
+        x.set(0, 400);
+        CHECK.due("23 no turn", 0, x.fan(0, 0));
+        CHECK.row("23 no turn", x, 7);
+        x.set(0, 1);
+        x.sheet(1, 3, 0, 0, 0);
         CHECK.due("23 without corn", 30, x.fan(1, 0));
         CHECK.row("23 without corn", x, 0);
         CHECK.due("23 NONE", -1, x.fan(0, -1));
@@ -139,6 +171,8 @@ public final class PartingTest {
         CHECK.due("24 bits", 2 + 8 + 32, x.serves(0, 1));
         CHECK.due("24 the other way", 2 + 8 + 32, x.serves(1, 0));
         CHECK.due("24 like ones", 0, x.serves(1, 1));
+        Check.wind(x, "16*1;0*5");
+        CHECK.due("24 the first", 1, x.serves(0, 1));
         CHECK.due("24 NONE", -1, x.serves(0, 2));
         CHECK.due("24 NONE", -1, x.serves(-1, 0));
     }

@@ -35,6 +35,8 @@ public final class SellingTest {
         for (Object[] t : told) {
             CHECK.due("28 " + t[0], (Integer) t[1], value(x, (String) t[0]));
         }
+        x.sheet(0, 2, 5, 1, -1);
+        CHECK.due("28 one grain is a SORT of corn", 1, value(x, "k"));
         x.sheet(0, 3, 0, 0, 0);
         CHECK.due("28 p of nothing", 0, value(x, "p"));
         CHECK.due("28 of nothing", 5, value(x, "5+m+n+k"));
@@ -146,6 +148,10 @@ public final class SellingTest {
         Check.says(x, 1, "(n=500)*50");
         CHECK.due("31 not all between", 11, x.may(0, 1, 50));
         CHECK.row("31 not all between", x, 7, 497);
+        Check.says(x, 2, "(n=77)*51");
+        CHECK.due("31 one", 1, x.may(0, 1, 51));
+        CHECK.row("31 one", x, 74, 74);
+        Check.says(x, 2, "");
         CHECK.due("31 none", 0, x.may(0, 1, 51));
         CHECK.row("31 none", x);
         CHECK.due("31 nothing changes", 5, x.has(0, 1));
