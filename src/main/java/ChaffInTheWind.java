@@ -866,10 +866,13 @@ public final class ChaffInTheWind {
         return chosen;
     }
 
+    /** SORTS that stay; a FAN told in a longer barn may reach over its door, where nothing does. */
     private int stayingIn(Pass pass) {
         int bits = 0;
         for (int s = 0; s < barn.sorts && pass != null; s++) {
-            if (pass.holds(barn, s)) {
+            int yard = pass.isFan ? barn.landing(s, pass.wind) : 0;
+            boolean there = pass.isFan ? pass.catches(yard) && !barn.isOut(yard) : pass.holds(barn.size[s]);
+            if (there) {
                 bits |= 1 << s;
             }
         }
@@ -1661,13 +1664,12 @@ public final class ChaffInTheWind {
             this.over = over;
         }
 
-        /** Whether a SORT stays; a FAN told in a longer barn may reach over its door. */
-        private boolean holds(Barn barn, int sort) {
-            if (!isFan) {
-                return barn.size[sort] >= hole == over;
-            }
-            int yard = barn.landing(sort, wind);
-            return yard >= from && yard <= to && !barn.isOut(yard);
+        private boolean catches(int yard) {
+            return yard >= from && yard <= to;
+        }
+
+        private boolean holds(int size) {
+            return size >= hole == over;
         }
     }
 

@@ -145,6 +145,7 @@ public final class BarnTest {
         CHECK.due("4 full", 10, x.count(0));
         CHECK.due("4 no room", -1, Check.text(x, "s1,1,1*1").barn());
         CHECK.due("4 no room", -1, Check.text(x, "s").barn());
+        CHECK.due("4 no room, nor a sign", -4, Check.text(x, "y8;").barn());
         CHECK.due("4 room for y", 1, Check.text(x, "y8").barn());
     }
 
@@ -213,7 +214,7 @@ public final class BarnTest {
 
     private static void saysRefuses() {
         Object[][] told = {
-            {"x", -1}, {"+", -1}, {")", -1}, {"i", -1}, {" ", -1}, {"m+", -3}, {"m+*", -3}, {"m m", -2}, {"mm", -2}, {"5m", -2}, {"m5", -2},
+            {"x", -1}, {"+", -1}, {")", -1}, {"i", -1}, {" ", -1}, {"m+", -3}, {"m-", -3}, {"m*", -3}, {"m/", -3}, {"(m*)", -4}, {"m+*", -3}, {"m m", -2}, {"mm", -2}, {"5m", -2}, {"m5", -2},
             {"m<c<h", -4}, {"m<c=h", -4}, {"m<c>", -4}, {"m<", -3}, {"m<=c", -3}, {"<", -1}, {"-", -2}, {"---", -4},
             {"(", -2}, {"()", -2}, {"(m", -3}, {"(m(", -3}, {"m)", -2}, {"(m))", -4}, {"1000", -4}, {"0000", -4},
             {"(((((m", -5}, {"((((m))))+((((m)))))", -20}, {"(m<c)<(h<w)<1", -12}, {"m+-", -4}, {"m**c", -3}, {"m--+c", -4},

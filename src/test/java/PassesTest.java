@@ -213,6 +213,12 @@ public final class PassesTest {
             CHECK.due("41 find " + d[0], d[1], x.find(d[0]));
             CHECK.row("41 find " + d[0], x, d[2]);
         }
+        x.hole(20, false);
+        x.hole(21, false);
+        CHECK.due("41 corn goes", 4, x.find(5));
+        CHECK.row("41 corn goes", x, 0);
+        CHECK.due("41 the first", 2, x.find(1));
+        CHECK.row("41 the first", x, 1);
         CHECK.due("41 NONE", -1, x.find(0));
         CHECK.due("41 NONE", -1, x.find(-1));
         CHECK.due("41 NONE", -1, x.find(16));

@@ -35,6 +35,10 @@ public final class SellingTest {
         for (Object[] t : told) {
             CHECK.due("28 " + t[0], (Integer) t[1], value(x, (String) t[0]));
         }
+        x.sheet(0, 2, 4, 99, -70);
+        CHECK.due("28 c by m", 990 * 100 / (990 + 58), value(x, "p"));
+        x.sheet(0, 2, 5, 0, 999);
+        CHECK.due("28 c by m", 400 / (2 + 7 + 50 + 4), value(x, "p"));
         x.sheet(0, 2, 5, 1, -1);
         CHECK.due("28 one grain is a SORT of corn", 1, value(x, "k"));
         x.sheet(0, 3, 0, 0, 0);
