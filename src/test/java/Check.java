@@ -75,6 +75,14 @@ final class Check {
         return text(x, signs).wind();
     }
 
+    int asked() {
+        return asked;
+    }
+
+    int wrong() {
+        return wrong;
+    }
+
     void close() {
         System.out.println(name + ": " + asked + " answers, " + wrong + " not as due");
         if (wrong > 0) {

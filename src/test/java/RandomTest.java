@@ -4,13 +4,17 @@ import java.util.Random;
 /** Many runs of calls, always the same ones, each answer compared with that of Model. */
 public final class RandomTest {
     private static final Check CHECK = new Check("RandomTest");
-    private static final int RUNS = 300;
-    private static final int CALLS = 500;
+    private static final int RUNS = 2000;
+    /** So often an object may be asked, and the most that one call here may take with its text and its ROW. */
+    private static final int MOST_ASKED = 512;
+    private static final int DEAREST_CALL = 40;
+    private static final int COUNTS = 12;
 
     private final Random random;
     private final ChaffInTheWind x = new ChaffInTheWind();
     private final Model model = new Model();
     private final boolean wild;
+    private int asked = 0;
 
     private RandomTest(int run) {
         random = new Random(run);
@@ -22,12 +26,22 @@ public final class RandomTest {
         for (int run = 0; run < runs; run++) {
             RandomTest test = new RandomTest(run);
             test.prepare();
-            for (int call = 0; call < CALLS; call++) {
+            for (int call = 0; test.hasTime(); call++) {
                 test.call("run " + run + " call " + call);
             }
             test.compareAll("run " + run);
+            CHECK.due("run " + run + " asks no more than is promised", true, test.asked <= MOST_ASKED);
         }
         CHECK.close();
+    }
+
+    /** For one more call, and for looking at all in the end. */
+    private boolean hasTime() {
+        return asked + COUNTS + model.sorts.size() * placesOfOneSort() + DEAREST_CALL <= MOST_ASKED;
+    }
+
+    private int placesOfOneSort() {
+        return 6 + model.yards + 1;
     }
 
     private int from(int least, int most) {
@@ -182,34 +196,39 @@ public final class RandomTest {
         x.end(0);
         model.end(0);
         Check.text(x, t);
+        asked += 3 + (t.length() + 3) / 4;
         model.text = t;
         same("text", t.length(), x.count(9));
     }
 
     // ---- calls
 
+    /** Each comparison is told for one call. */
     private void same(String call, long want, long got) {
+        asked++;
         CHECK.due(call, want, got);
     }
 
     private void compareRow(String call) {
-        same(call + " ROW", model.row.size(), x.count(8));
-        for (int i = 0; i < model.row.size() && i < x.count(8); i++) {
+        int numbers = x.count(8);
+        same(call + " ROW", model.row.size(), numbers);
+        for (int i = 0; i < model.row.size() && i < numbers; i++) {
             same(call + " row " + i, model.row.get(i), x.row(i));
         }
     }
 
+    /** All SORTS, but where the last call told more of them than there is time for. */
     private void compareAll(String call) {
-        for (int s = 0; s < model.sorts.size(); s++) {
+        for (int what = -1; what < COUNTS - 1; what++) {
+            same(call + " count " + what, model.count(what), x.count(what));
+        }
+        for (int s = 0; s < model.sorts.size() && asked + placesOfOneSort() <= MOST_ASKED; s++) {
             for (int h = 0; h < 6; h++) {
                 same(call + " has", model.has(h, s), x.has(h, s));
             }
             for (int y = 0; y <= model.yards; y++) {
                 same(call + " lies", model.lies(y, s), x.lies(y, s));
             }
-        }
-        for (int what = -1; what <= 10; what++) {
-            same(call + " count " + what, model.count(what), x.count(what));
         }
     }
 
@@ -240,9 +259,6 @@ public final class RandomTest {
                 break;
         }
         compareRow(call);
-        if (random.nextInt(40) == 0) {
-            compareAll(call);
-        }
     }
 
     private void barnCall(String call, int which) {
