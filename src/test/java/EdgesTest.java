@@ -1,10 +1,15 @@
-/** Each sentence of the document that names a boundary case: see Edges. With a name, that of one sentence alone. */
+/** Each sentence of the document that names a boundary case: see Edges. With the name of one sentence: that one alone. */
 public final class EdgesTest {
     private EdgesTest() {
     }
 
     public static void main(String[] args) {
-        Edges edges = new Edges(args.length > 0 ? args[0] : null);
+        if (args.length > 0) {
+            int wrong = wrongOf(args[0]);
+            System.out.println(args[0] + (wrong < 0 ? " is no sentence that is tested" : " | " + wrong + " not as due"));
+            System.exit(wrong == 0 ? 0 : 1);
+        }
+        Edges edges = new Edges(null);
         run(edges);
         edges.close();
     }

@@ -43,10 +43,13 @@ final class KeptEdges {
         x.keep(0);
         int[] before = {x.has(0, 0), x.has(0, 1), x.lies(11, 0), x.lies(10, 1), x.lies(12, 1), x.count(2)};
         x.go(0, 9);
+        x.set(1, 40);
         x.sheet(5, 2, 2, 8, 0);
         x.set(3, 9);
         x.go(5, 1);
         x.mix(5, 4);
+        x.sheet(5, 2, 2, 8, 0);
+        edges.due("more is OUT than was", true, x.count(7) > before[4]);
         edges.due("again", true, x.again(0));
         int[] after = {x.has(0, 0), x.has(0, 1), x.lies(11, 0), x.lies(10, 1), x.lies(12, 1), x.count(2)};
         for (int i = 0; i < before.length; i++) {
@@ -56,6 +59,17 @@ final class KeptEdges {
         edges.due("all grains", 8, x.count(5) + x.count(6) + x.count(7));
         edges.due("R", 99, x.seed(1));
         edges.due("SETTINGS are not kept", 9, x.set(3, 3));
+        x = Barns.one("c9,1,0*9;y24");
+        x.set(3, 1);
+        for (int yard = 0; yard < 24; yard += 23) {
+            x.set(2, yard);
+            x.go(0, 1);
+        }
+        x.keep(2);
+        x.gather(0, 23, 1);
+        x.again(2);
+        edges.due("the first YARD", 1, x.lies(0, 0));
+        edges.due("the last YARD", 1, x.lies(23, 0));
     }
 
     private void keeps() {

@@ -65,6 +65,8 @@ final class PartEdges {
         x.set(1, -40);
         x.set(2, 0);
         edges.due("all but those of YARD 0", 121 - 76, x.parts(0, 1));
+        x.set(1, 16);
+        edges.due("all but 16 .. 31", 121 - 16, x.parts(0, 1));
     }
 
     private void outIsLikeAYard() {
@@ -175,8 +177,17 @@ final class PartEdges {
         edges.row("a SORT of which there is no grain", x, 5, 0);
         x.set(2, 11);
         x.sheet(0, 2, 3, 0, 1);
-        edges.due("OUT is no YARD", -1, x.best(0));
-        edges.row("OUT is no YARD", x, 1, 0);
+        edges.due("the YARD ahead of it", -1, x.best(0));
+        edges.row("the YARD ahead of it", x, 1, 0);
+        x.set(0, 400);
+        x.set(2, 0);
+        Check.text(x, "y2").barn();
+        edges.due("OUT is no YARD", 0, x.best(0));
+        edges.row("OUT is no YARD", x, 0, 0);
+        x = Check.barn("w1,1,4*1;c9,1,0*5");
+        x.set(0, 1);
+        edges.due("the first SORT is something else", 16, x.best(0));
+        edges.row("the first SORT is something else", x, 5, 0);
     }
 
     private void bestOfEqualOnes() {
@@ -206,6 +217,11 @@ final class PartEdges {
         x.sheet(0, 2, 1, 5, 0);
         edges.due("all go OUT", 0, x.best(0));
         edges.row("all go OUT", x, 0, 5);
+        x = Check.barn("c9,1,0*5;c8,1,0*2;w7,1,0*9");
+        x.set(2, 11);
+        x.set(1, 40);
+        edges.due("two SORTS of it", 0, x.best(0));
+        edges.row("two SORTS of it", x, 0, 7);
     }
 
     private void bestNone() {
@@ -240,6 +256,8 @@ final class PartEdges {
 
     private void aimOfEqualOnes() {
         aims("c9,1,0*5;h1,1,4*3", 11, 0, 5, 20, -40);
+        aims("c5,1,1*5;h14,1,4*3;y3", 0, 30, 5, 20, 0);
+        aims("c20,1,7*5;h7,1,4*3;y9", 0, 50, 5, 20, -20);
         aims("c9,1,0*5;s9,1,0*3", 5, 0, 0, 20, -40);
         aims("h9,1,0*5;s9,1,0*3", 5, 60, 0, 20, -40);
         ChaffInTheWind x = Check.barn("c9,1,0*5");
@@ -306,14 +324,17 @@ final class PartEdges {
         x.sheet(0, 2, 3, 0, 4);
         x.fan(0, 0);
         edges.row("no corn", x, 0);
+        x = Check.barn("h9,1,0*4;c9,1,0*5;h8,1,0*7;h9,1,0*0");
+        x.fan(0, 0);
+        edges.row("two SORTS of chaff", x, 11);
     }
 
     private void noTurns() {
         ChaffInTheWind x = Barns.low(11);
-        x.never();
+        x.lands(0, 0);
         x.set(1, 40);
         edges.due("4 of 5", -2, x.fan(0, 4));
-        edges.row("the ROW stays", x);
+        edges.row("the ROW stays", x, 1, 0, 2);
         edges.due("5 of 5", 30, x.fan(0, 5));
         edges.due("none of 5", -2, x.fan(0, 0));
     }
@@ -333,6 +354,9 @@ final class PartEdges {
         Check.wind(x, "15*1~20;16*1~1;-1*9;0*99;-60*1;60*1");
         edges.due("15 and 0 do not", 2 + 4 + 16 + 32, x.serves(0, 1));
         edges.due("like ones", 0, x.serves(1, 1));
+        Check.wind(x, "16*1;0*1");
+        edges.due("the first", 1, x.serves(0, 1));
+        Check.wind(x, "15*1~20;16*1~1;-1*9;0*99;-60*1;60*1");
         Check.wind(x, "16*1;".repeat(8));
         edges.due("refused", 2 + 4 + 16 + 32, x.serves(1, 0));
         Check.wind(x, "9*1;".repeat(9) + "16*1");

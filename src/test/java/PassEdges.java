@@ -175,6 +175,14 @@ final class PassEdges {
         x.hole(25, false);
         edges.due("the last two", 2, x.order(0, 100, 100));
         edges.row("the last two", x, 32 + 64);
+        x = Check.barn("w1,5,4*9;c40,20,0*1;w1,30,4*9");
+        x.set(0, 1);
+        x.hole(15, true);
+        x.hole(25, false);
+        edges.due("two do", 2, x.order(0, 100, 100));
+        x.blow(60, 0, 0);
+        edges.due("one that comes behind them does", 1, x.order(0, 100, 100));
+        edges.row("one that comes behind them does", x, 4);
     }
 
     private void ofAsFew() {
@@ -232,6 +240,8 @@ final class PassEdges {
         edges.due("one", 4, x.needed(0, 81, 100));
         edges.due("two", 2 + 4, x.needed(0, 100, 100));
         edges.due("no ROW is told", 0, x.count(8));
+        x = fortyInAHundred();
+        edges.due("the first", 1, x.needed(0, 41, 100));
     }
 
     private void neededNone() {

@@ -122,6 +122,9 @@ final class SellEdges {
         Check.says(x, 0, "99-n");
         edges.due("four of three YARDS", 288, x.marks(4));
         edges.row("four of three YARDS", x, 3, 1, 2);
+        Check.text(x, "y2").barn();
+        edges.due("four of two YARDS, of which nothing is known", 0, x.marks(4));
+        edges.row("four of two YARDS, of which nothing is known", x, 1);
     }
 
     private void allYards() {
@@ -135,12 +138,25 @@ final class SellEdges {
         edges.row("the first YARD alone, or the last", x, 2, 1);
         edges.due("three", 18, x.marks(3));
         edges.row("three", x, 3, 1, 3);
+        x = lying(new int[][] {{3, 0}, {0, 0}, {3, 0}, {0, 1}});
+        Check.says(x, 0, "c-99*w");
+        edges.due("the last YARD alone", 6, x.marks(2));
+        edges.row("the last YARD alone", x, 2, 3);
         x = Barns.low(11);
         x.set(1, 40);
         x.go(0, 1);
         Check.says(x, 0, "n");
         edges.due("OUT is no YARD", 3, x.marks(4));
         edges.due("an empty barn", 0, new ChaffInTheWind().marks(4));
+        x = Check.barn("c9,1,0*3;y24");
+        x.set(2, 23);
+        x.go(0, 1);
+        Check.says(x, 0, "c");
+        edges.due("24 YARDS", 27, x.marks(4));
+        edges.row("24 YARDS", x, 1);
+        Check.says(x, 0, "c+5");
+        edges.due("24 YARDS, the last alone", 32, x.marks(4));
+        edges.row("24 YARDS, the last alone", x, 1);
     }
 
     private void fewestHeaps() {

@@ -192,7 +192,7 @@ final class TermsEdges {
         ChaffInTheWind x = new ChaffInTheWind();
         edges.due("two each, three", 2, Check.text(x, "c01,02,03*004;y09").barn());
         edges.due("one each", 2, Check.text(x, "h1,2,3*4;y9").barn());
-        String[] told = {"c011,2,3*4", "c1,022,3*4", "c1,2,033*4", "c1,2,3*0444", "y099"};
+        String[] told = {"c011,2,3*4", "c1,022,3*4", "c1,2,033*4", "c1,2,3*0444", "y023"};
         int[] third = {3, 5, 7, 10, 3};
         for (int i = 0; i < told.length; i++) {
             edges.due("one digit more: " + told[i], -1 - third[i], Check.text(x, told[i]).barn());
@@ -422,29 +422,35 @@ final class TermsEdges {
         edges.due("20", 1, Check.wind(x, "15*1~20"));
         x.odds(1, 0, 0, 0);
         edges.row("20", x, 21, 41);
-        edges.due("none", 1, Check.wind(x, "15*1"));
+        for (int i = 0; i < 3; i++) {
+            edges.due("none", 1, Check.wind(x, "15*1"));
+            x.odds(1, 0, 0, 0);
+            edges.row("none", x, 1, 1);
+        }
         edges.due("0", -5, Check.wind(x, "5*1~0"));
         edges.due("21", -6, Check.wind(x, "5*1~21"));
         edges.due("no number", -5, Check.wind(x, "5*1~"));
     }
 
-    /** From HEIGHT 4 the chaff flies 4 times the WIND: 240 is 15 YARDS. */
+    /** From HEIGHT 27 this chaff flies to another YARD in the WIND 59 than in 60, and in -59 than in -60. */
     private void putWinds() {
-        ChaffInTheWind x = Barns.one("h1,1,4*9;y24");
-        x.set(0, 4);
+        ChaffInTheWind x = Barns.one("h1,1,1*9;y24");
+        x.set(0, 27);
         x.set(3, 1);
+        edges.due("59", 15, x.lands(0, 59));
         Check.wind(x, "60*1~20");
         x.seed(Barns.seedFor(41, 40));
         x.go(0, 1);
-        edges.due("80", 1, x.lies(15, 0));
+        edges.due("80", 1, x.lies(16, 0));
         x.seed(Barns.seedFor(41, 0));
         x.go(0, 1);
         edges.due("40", 1, x.lies(10, 0));
-        x.set(2, 20);
+        x.set(2, 23);
+        edges.due("-59", 7, x.lands(0, -59));
         Check.wind(x, "-60*1~20");
         x.seed(Barns.seedFor(41, 0));
         x.go(0, 1);
-        edges.due("-80", 1, x.lies(5, 0));
+        edges.due("-80", 1, x.lies(6, 0));
     }
 
     private void fromTheFirst() {
@@ -452,9 +458,12 @@ final class TermsEdges {
         x.set(3, 1);
         Check.wind(x, "1*2;2*1");
         int[] due = {1, 1, 2, 1, 1, 2, 1};
-        for (int wind : due) {
-            edges.due("WIND", wind, x.blows());
-            x.go(0, 1);
+        for (int told = 0; told < 4; told++) {
+            Check.wind(x, "1*2;2*1");
+            for (int wind : due) {
+                edges.due("told anew " + told, wind, x.blows());
+                x.go(0, 1);
+            }
         }
     }
 
@@ -463,7 +472,7 @@ final class TermsEdges {
         edges.due("two each", 2, Check.wind(x, "01*02~03;-04*05~06"));
         edges.due("three", -3, Check.wind(x, "011*2"));
         edges.due("three of TIMES", -5, Check.wind(x, "1*022"));
-        edges.due("three behind ~", -7, Check.wind(x, "1*2~033"));
+        edges.due("three behind ~", -7, Check.wind(x, "1*2~012"));
         edges.due("none", -1, Check.wind(x, "*2"));
     }
 
@@ -505,12 +514,15 @@ final class TermsEdges {
         }
     }
 
-    /** R becomes -1103502900, without sign 3191464396, by 65536 48697: % 19 is 0, and so the WIND 1. */
     private void withoutSign() {
-        ChaffInTheWind x = yardByYard("10*1~9");
-        x.seed(-1);
-        x.go(0, 1);
-        edges.due("48697 % 19 is 0", 1, x.lies(1, 0));
+        int[] all = {-1, 0, 1, 2, 3, 4, 5, Integer.MAX_VALUE, Integer.MIN_VALUE, -77};
+        for (int r : all) {
+            long unsigned = r * 1103515245L + 12345 & 0xffffffffL;
+            ChaffInTheWind x = yardByYard("10*1~9");
+            x.seed(r);
+            x.go(0, 1);
+            edges.due("behind R " + r, 1, x.lies(1 + (int) (unsigned / 65536 % 19), 0));
+        }
     }
 
     private void throwsCounted() {

@@ -155,7 +155,8 @@ final class TextEdges {
 
     private void more() {
         barnRefuses(new Object[][] {{from73("y123"), 75}, {from73("y9;yy"), 76}, {from73("y12;"), 76}, {from73("y12;y12;"), 76},
-            {from73("y1;;"), 73}, {from73("y12x"), 75}});
+            {from73("y1;;"), 73}, {from73("y12x"), 75},
+            {from73("y1;y9;y9"), 73}, {from73("x12;y9"), 72}, {"x" + from73("y12;"), 0}});
         String seventyThree = "c10,1,1*1;" + "y12;".repeat(15) + "y9;";
         edges.due("76 that end", 18, Check.text(new ChaffInTheWind(), seventyThree + "y12").barn());
         barnRefuses(new Object[][] {{seventyThree + "y12;", 76}, {seventyThree + "y12x", 76}, {seventyThree + "y123456", 76},
@@ -185,6 +186,9 @@ final class TextEdges {
         edges.due("the eleventh", -1, Check.text(x, "h1,1,1*1").barn());
         edges.due("its letter alone", -1, Check.text(x, "s").barn());
         edges.due("behind a y", -4, Check.text(x, "y5;w1,1,1*1").barn());
+        edges.due("no letter", -1, Check.text(x, ";").barn());
+        edges.due("no letter behind a y", -4, Check.text(x, "y5;;").barn());
+        edges.due("its end", -4, Check.text(x, "y5;").barn());
         edges.due("no more grains", 10, x.count(5));
         edges.due("LONG is as it was", 12, x.count(1));
         edges.due("a y has room", 1, Check.text(x, "y5").barn());

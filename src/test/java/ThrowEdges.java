@@ -36,9 +36,11 @@ final class ThrowEdges {
         ChaffInTheWind x = Barns.low(11);
         edges.due("the last YARD", 11, x.lands(1, 15));
         edges.due("OUT", 12, x.lands(1, 16));
+        edges.due("far OUT", 12, x.lands(1, 60));
         Check.text(x, "y2").barn();
         edges.due("the last of 2", 1, x.lands(1, 15));
         edges.due("OUT of 2", 2, x.lands(1, 16));
+        edges.due("far OUT of 2", 2, x.lands(1, 60));
         edges.due("the first of 2", 0, x.lands(1, -1));
     }
 
@@ -109,6 +111,10 @@ final class ThrowEdges {
         edges.due("none", 0, x.go(0, 9));
         edges.row("in no THROW", x, 0);
         edges.due("OUT by all", 1, x.count(7));
+        x.sheet(0, 2, 2, 0, 5);
+        Check.wind(x, "16*9");
+        edges.due("three", 3, x.go(0, 9));
+        edges.row("in all of them", x, 5);
     }
 
     private void goNone() {
@@ -217,6 +223,7 @@ final class ThrowEdges {
         edges.due("60 stays", 3, x.has(0, 2));
         edges.due("all that came", 9, x.has(1, 0) + x.has(1, 1));
         edges.due("of nothing", 0, x.sieve(4, 60, 5));
+        edges.due("two SORTS", 9, x.sieve(1, 60, 0));
     }
 
     private void sieveNone() {

@@ -186,6 +186,12 @@ final class ToldEdges {
             boolean both = i == 0;
             edges.due("PRICE " + letters[i], both ? 0 : -1, Check.says(x, 0, letters[i]));
         }
+        x = Check.barn("s11,22,33*5");
+        String[] things = {"w-11", "z-22", "d-33", "i-3", "k-9"};
+        for (String thing : things) {
+            Check.says(x, 3, thing);
+            edges.due(thing + " is 0", 0, x.stroke(0, 9, 1));
+        }
     }
 
     private void strokes() {
@@ -316,12 +322,11 @@ final class ToldEdges {
     }
 
     private void refused() {
-        edges.refused("sign", x -> {
-            Check.text(x, "y5".repeat(39));
-            long answer = x.sign(0);
-            Check.text(x, "y5");
-            return answer;
-        });
+        ChaffInTheWind full = Check.text(Barns.busy(), "y5" + "y".repeat(75));
+        edges.due("sign", -1, full.sign(0));
+        edges.due("THE TEXT of sign", 77, full.count(9));
+        full.end(2);
+        edges.same("sign changes nothing", Barns.busy(), full);
         edges.unanswered("end(3)", 0, x -> x.end(3) ? 1 : 0);
         edges.refused("set(0, 0)", x -> x.set(0, 0));
         edges.refused("sheet(6, 0, 1, 1, 1)", x -> x.sheet(6, 0, 1, 1, 1));
