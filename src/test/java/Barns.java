@@ -45,6 +45,19 @@ final class Barns {
         return x;
     }
 
+    /** So many grains of corn (SORT 0) and of weeds (SORT 1), of WEIGHT 1 both, in each YARD. */
+    static ChaffInTheWind lying(int[][] grains) {
+        ChaffInTheWind x = Check.barn("c1,1,0*0;w1,1,0*0;y" + grains.length);
+        x.set(0, 1);
+        x.set(3, 99);
+        for (int yard = 0; yard < grains.length; yard++) {
+            x.set(2, yard);
+            x.sheet(0, 2, 2, grains[yard][0], grains[yard][1] - grains[yard][0]);
+            x.go(0, 1);
+        }
+        return x;
+    }
+
     /** An R by which the next DRAW of n answers want. */
     static int seedFor(int n, int want) {
         for (int r = 0; r < 1_000_000; r++) {

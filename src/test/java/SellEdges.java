@@ -91,21 +91,8 @@ final class SellEdges {
 
     // ---- promise 30
 
-    /** So many grains of corn and of weeds in each YARD. */
-    private static ChaffInTheWind lying(int[][] grains) {
-        ChaffInTheWind x = Check.barn("c1,1,0*0;w1,1,0*0;y" + grains.length);
-        x.set(0, 1);
-        x.set(3, 99);
-        for (int yard = 0; yard < grains.length; yard++) {
-            x.set(2, yard);
-            x.sheet(0, 2, 2, grains[yard][0], grains[yard][1] - grains[yard][0]);
-            x.go(0, 1);
-        }
-        return x;
-    }
-
     private void atMostHeaps() {
-        ChaffInTheWind x = lying(new int[][] {{5, 0}, {0, 3}, {4, 0}, {0, 0}, {6, 0}, {0, 9}});
+        ChaffInTheWind x = Barns.lying(new int[][] {{5, 0}, {0, 3}, {4, 0}, {0, 0}, {6, 0}, {0, 9}});
         Check.says(x, 0, "c-2*w");
         long[][] due = {{0, 1}, {9, 2, 5}, {10, 3, 2, 5}, {15, 4, 1, 2, 5}};
         for (int k = 1; k <= 4; k++) {
@@ -114,11 +101,11 @@ final class SellEdges {
             System.arraycopy(due[k - 1], 1, row, 0, row.length);
             edges.row("k " + k, x, row);
         }
-        x = lying(new int[][] {{3, 0}, {3, 0}});
+        x = Barns.lying(new int[][] {{3, 0}, {3, 0}});
         Check.says(x, 0, "99-n");
         edges.due("four of two YARDS", 192, x.marks(4));
         edges.row("four of two YARDS", x, 2, 1);
-        x = lying(new int[][] {{3, 0}, {3, 0}, {3, 0}});
+        x = Barns.lying(new int[][] {{3, 0}, {3, 0}, {3, 0}});
         Check.says(x, 0, "99-n");
         edges.due("four of three YARDS", 288, x.marks(4));
         edges.row("four of three YARDS", x, 3, 1, 2);
@@ -128,7 +115,7 @@ final class SellEdges {
     }
 
     private void allYards() {
-        ChaffInTheWind x = lying(new int[][] {{9, 0}, {0, 0}, {0, 1}, {0, 0}, {0, 0}, {9, 0}});
+        ChaffInTheWind x = Barns.lying(new int[][] {{9, 0}, {0, 0}, {0, 1}, {0, 0}, {0, 0}, {9, 0}});
         Check.says(x, 0, "c-9*w");
         edges.due("one heap", 9, x.marks(1));
         edges.row("one heap", x, 1);
@@ -138,7 +125,7 @@ final class SellEdges {
         edges.row("the first YARD alone, or the last", x, 2, 1);
         edges.due("three", 18, x.marks(3));
         edges.row("three", x, 3, 1, 3);
-        x = lying(new int[][] {{3, 0}, {0, 0}, {3, 0}, {0, 1}});
+        x = Barns.lying(new int[][] {{3, 0}, {0, 0}, {3, 0}, {0, 1}});
         Check.says(x, 0, "c-99*w");
         edges.due("the last YARD alone", 6, x.marks(2));
         edges.row("the last YARD alone", x, 2, 3);
@@ -160,7 +147,7 @@ final class SellEdges {
     }
 
     private void fewestHeaps() {
-        ChaffInTheWind x = lying(new int[][] {{5, 0}, {4, 0}, {3, 0}});
+        ChaffInTheWind x = Barns.lying(new int[][] {{5, 0}, {4, 0}, {3, 0}});
         edges.due("no PRICE", 0, x.marks(4));
         edges.row("no PRICE", x, 1);
         Check.says(x, 0, "c");
@@ -172,13 +159,13 @@ final class SellEdges {
     }
 
     private void leastMarks() {
-        ChaffInTheWind x = lying(new int[][] {{0, 0}, {2, 0}, {0, 0}, {0, 2}, {0, 0}, {2, 0}});
+        ChaffInTheWind x = Barns.lying(new int[][] {{0, 0}, {2, 0}, {0, 0}, {0, 2}, {0, 0}, {2, 0}});
         Check.says(x, 0, "c-2*w");
         edges.due("2 or 3", 2, x.marks(2));
         edges.row("2 or 3", x, 2, 2);
         edges.due("2 or 3, then 4 or 5", 4, x.marks(4));
         edges.row("2 or 3, then 4 or 5", x, 3, 2, 4);
-        x = lying(new int[][] {{1, 0}, {1, 0}, {1, 0}, {1, 0}, {1, 0}});
+        x = Barns.lying(new int[][] {{1, 0}, {1, 0}, {1, 0}, {1, 0}, {1, 0}});
         Check.says(x, 0, "n=2");
         edges.due("three", 2, x.marks(4));
         edges.row("2 1 2, 2 2 1 or 1 2 2", x, 3, 1, 3);

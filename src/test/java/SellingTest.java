@@ -90,22 +90,8 @@ public final class SellingTest {
         CHECK.row("29 the ROW stays", x, -1, 0);
     }
 
-    /** So many grains of SORT 0 and SORT 1 for each YARD. */
-    private static ChaffInTheWind lying(int[][] grains) {
-        ChaffInTheWind x = Check.barn("c1,1,0*0;w1,1,0*0");
-        Check.text(x, grains.length < 10 ? "y" + grains.length : "y1" + grains.length % 10).barn();
-        x.set(0, 1);
-        x.set(3, 99);
-        for (int yard = 0; yard < grains.length; yard++) {
-            x.set(2, yard);
-            x.sheet(0, 2, 2, grains[yard][0], grains[yard][1] - grains[yard][0]);
-            x.go(0, 1);
-        }
-        return x;
-    }
-
     private static void marks() {
-        ChaffInTheWind x = lying(new int[][] {{5, 0}, {0, 3}, {4, 0}, {0, 0}, {6, 0}, {0, 9}});
+        ChaffInTheWind x = Barns.lying(new int[][] {{5, 0}, {0, 3}, {4, 0}, {0, 0}, {6, 0}, {0, 9}});
         CHECK.due("30 without a PRICE", 0, x.marks(4));
         CHECK.row("30 without a PRICE", x, 1);
         Check.says(x, 0, "c-2*w");
@@ -121,13 +107,13 @@ public final class SellingTest {
         CHECK.due("30 NONE", -1, x.marks(5));
         CHECK.row("30 the ROW stays", x, 4, 1, 2, 5);
         CHECK.due("30 it lies still", 27, x.count(6));
-        x = lying(new int[][] {{0, 0}, {2, 0}, {0, 0}, {0, 2}, {0, 0}, {2, 0}});
+        x = Barns.lying(new int[][] {{0, 0}, {2, 0}, {0, 0}, {0, 2}, {0, 0}, {2, 0}});
         Check.says(x, 0, "c-2*w");
         CHECK.due("30 the least mark", 2, x.marks(2));
         CHECK.row("30 the least mark", x, 2, 2);
         CHECK.due("30 the least marks", 4, x.marks(4));
         CHECK.row("30 the least marks", x, 3, 2, 4);
-        x = lying(new int[][] {{3, 0}, {3, 0}});
+        x = Barns.lying(new int[][] {{3, 0}, {3, 0}});
         Check.says(x, 0, "99-n");
         CHECK.due("30 no more heaps than YARDS", 192, x.marks(4));
         CHECK.row("30 no more heaps than YARDS", x, 2, 1);
