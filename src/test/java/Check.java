@@ -22,6 +22,14 @@ final class Check {
         due(call, want ? 1 : 0, got ? 1 : 0);
     }
 
+    void due(String call, String want, String got) {
+        asked++;
+        if (!want.equals(got)) {
+            wrong++;
+            System.out.println(name + ": " + call + " answered " + got + ", due is " + want);
+        }
+    }
+
     /** The whole ROW. */
     void row(String call, ChaffInTheWind x, long... want) {
         due(call + " numbers of the ROW", want.length, x.count(8));
