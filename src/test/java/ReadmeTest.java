@@ -9,7 +9,7 @@ import java.util.regex.Matcher;
 import java.util.regex.Pattern;
 import java.util.stream.Stream;
 
-/** What README.md tells: its example answers so, its table has each call, its list each test. Run in the project's directory. */
+/** What README.md tells: its example, its table of calls, its list of tests. Run in the project's directory. */
 public final class ReadmeTest {
     private static final Check CHECK = new Check("ReadmeTest");
     private static final Path README = Path.of("README.md");
